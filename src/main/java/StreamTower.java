@@ -217,9 +217,10 @@ public final class StreamTower {
         if (b < 0 || b > HIGHEST_BYTE) {
             throw new IllegalArgumentException();
         }
-        if (!(top instanceof Pushback pushback)) {
+        if (!(top instanceof Pushback)) {
             throw new UnsupportedOperationException();
         }
+        Pushback pushback = (Pushback) top;
         if (!pushback.putBack(b)) {
             throw new IllegalStateException();
         }
@@ -237,10 +238,11 @@ public final class StreamTower {
         if (layer == NONE) {
             return source.state();
         }
-        if (layer < 0 || layer >= layerCount) {
+        if (layer < 0 || layer >= layers.length) {
             return NONE;
         }
-        return layers[layer].state();
+        Stream asked = layers[layer];
+        return asked == null ? NONE : asked.state();
     }
 
     public int size(boolean letters) {

@@ -45,6 +45,8 @@ public final class LayersTest {
             "about(0) -> 1", "some(9) -> 1", "some(9) -> 1", "bag 3", "some(9) -> -1");
         t.run("BUFFER: the end is not kept",
             "push(1, 4) -> 0", "read() -> -1", "feed(9, 1) -> 1", "read() -> 9");
+        t.run("BUFFER: filled over and over", Runs.fed(65, 120,
+            "push(1, 4) -> 0", "line() -> 120", "at(119, false) -> 65", "about(0) -> 0"));
         t.run("BUFFER: the most that one keeps", Runs.fed(7, 120,
             "push(1, 16) -> 0", "read() -> 7", "about(0) -> 15", "mark(32) -> done", "full(32) -> done",
             "reset() -> done", "about(0) -> 47", "full(32) -> done", "reset() -> done", "about(0) -> 47",
@@ -68,8 +70,9 @@ public final class LayersTest {
             "unread(4) -> done", "unread(4) -> done", "unread(4) -> done", "unread(4) -> done",
             "push(2, 8) -> 4", "unread(5) -> done", "unread(5) -> done", "unread(5) -> done", "unread(5) -> done",
             "unread(5) -> done", "unread(5) -> done", "unread(5) -> done", "unread(5) -> done",
-            "available() -> 160", "line() -> 160", "size(false) -> 160", "at(0, false) -> 5", "at(159, false) -> 65",
-            "at(160, false) -> -1", "line() -> -1"));
+            "available() -> 160", "breakAt(120) -> true", "line() -> throws.IllegalStateException",
+            "size(false) -> 160", "at(0, false) -> 5", "at(8, false) -> 4", "at(159, false) -> 65",
+            "at(160, false) -> -1", "breakAt(-1) -> true", "line() -> -1"));
     }
 
     private static void limit(Runs t) {

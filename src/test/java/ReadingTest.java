@@ -64,6 +64,11 @@ public final class ReadingTest {
         t.run("9: nothing comes into the bag",
             "feed(1, 1) -> 1", "portion() -> done", "feed(0x020304, 3) -> 4", "read() -> 1", "skip(2) -> 2", "bag",
             "read() -> 4", "skip(0) -> 0", "bag");
+        t.run("9: only so many as are missing are asked for",
+            "feed(0x0102, 2) -> 2", "portion() -> done", "feed(0x03040506, 4) -> 6", "skip(3) -> 3",
+            "about(-1) -> 3", "skip(2) -> 2", "about(-1) -> 5");
+        t.run("9: no request when none are missing",
+            "feed(0x0102, 2) -> 2", "breakAt(2) -> true", "skip(2) -> 2", "skip(0) -> 0");
         t.run("9: the end",
             "feed(0x0102, 2) -> 2", "skip(9) -> 2", "skip(9) -> 0", "skip(0) -> 0");
         t.run("9: a broken place, some before and none before",
