@@ -121,7 +121,7 @@ public final class ReadingTest {
             "skip(2) -> 2", "text() -> " + WRONG, "bag 255 255", "feed(0x0100, 2) -> 8", "text() -> " + WRONG,
             "breakAt(8) -> true", "text() -> " + BROKEN);
         String[] length = {"feed(0x00, 1) -> 1", "feed(118, 1) -> 2"};
-        t.run("11: 118 bytes", join(length, fedBehind(2, 65, 118),
+        t.run("11: 118 bytes", Runs.rows(length, Runs.fedBehind(2, 65, 118),
             "text() -> 118", "size(true) -> 118", "size(false) -> 120", "at(117, true) -> 65",
             "at(119, false) -> 65", "at(118, true) -> -1"));
     }
@@ -196,21 +196,5 @@ public final class ReadingTest {
             "feed(0x0D0A0B61, 4) -> 4", "line() -> 0", "push(4, 1) -> 0", "read() -> 11", "about(0) -> 1");
         t.run("what a new CODE makes 10 is left out",
             "feed(0x0D0B61, 3) -> 3", "line() -> 0", "push(4, 1) -> 0", "read() -> 99", "about(0) -> 2");
-    }
-
-    private static String[] fedBehind(int there, int value, int n) {
-        String[] run = new String[n];
-        for (int k = 0; k < n; k++) {
-            run[k] = "feed(" + value + ", 1) -> " + (there + k + 1);
-        }
-        return run;
-    }
-
-    private static String[] join(String[] first, String[] second, String... third) {
-        java.util.List<String> all = new java.util.ArrayList<>();
-        all.addAll(java.util.List.of(first));
-        all.addAll(java.util.List.of(second));
-        all.addAll(java.util.List.of(third));
-        return all.toArray(new String[0]);
     }
 }
