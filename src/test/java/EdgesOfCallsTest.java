@@ -135,6 +135,8 @@ public final class EdgesOfCallsTest {
         t.run("skip, then the end at once", behind13("feed(0x0A, 1) -> 2", "skip(1) -> 0", "about(-1) -> 2"));
         t.run("skip, then a failure", behind13("feed(0x0A61, 2) -> 3", "breakAt(3) -> true", "skip(2) -> 1"));
         t.run("skip of 120", Runs.rows(behind13("feed(0x0A, 1) -> 2"), Runs.fedBehind(2, 7, 118), "skip(120) -> 118"));
+        t.run("skip of 120 with it in one answer", Runs.rows("feed(0x0A, 1) -> 1", Runs.fedBehind(1, 7, 119),
+            "push(2, 1) -> 0", "unread(13) -> done", "line() -> 0", "skip(120) -> 119", "about(-1) -> 120"));
         t.run("number", behind13("feed(0x0A0102, 3) -> 4", "number(2) -> 258", "bag 1 2"));
         t.run("number of one byte", behind13("feed(0x0A0A, 2) -> 3", "number(1) -> 10"));
         t.run("number of eight", behind13("feed(0x0A, 1) -> 2", "feed(-1, 4) -> 6", "feed(-1, 4) -> 10",
