@@ -155,7 +155,7 @@ public final class EdgesOfCallsTest {
     }
 
     private static void leftOutOfLine(Runs t) {
-        t.says("Terms", "when a line ended with 13");
+        t.says("Terms", "But when a line ended with 13");
         t.run("the next line", behind13("feed(0x0A610A, 3) -> 4", "line() -> 1", "bag 97", "line() -> -1"));
         t.run("the next line is empty", behind13("feed(0x0A0A61, 3) -> 4", "line() -> 0", "bag", "read() -> 97"));
         t.run("the next line ends with 13, too", behind13("feed(0x0A0D0A61, 4) -> 5", "line() -> 0", "read() -> 97"));

@@ -201,7 +201,7 @@ public final class EdgesOfLayersTest {
         t.says("Terms, LINES", "it requests n from below, answers that");
         t.run("n as the portion, and one more", "feed(0x0A0D, 2) -> 2", "portion() -> done", "feed(0x610A, 2) -> 4",
             "push(5, 0) -> 0", "some(2) -> 2", "bag 10 13", "some(3) -> 2", "bag 97 10", "some(1) -> -1");
-        t.says("Terms, LINES", "counts the line ends in it: each 10, and each 13");
+        t.says("Terms, LINES", "and counts the line ends in it: each 10, and each 13");
         for (String b : new String[] {"0", "9", "11", "12", "14", "138", "141", "255"}) {
             t.run("no line end " + b, "feed(" + b + ", 1) -> 1", "push(5, 0) -> 0", "read() -> " + b, "about(0) -> 0");
         }
@@ -296,7 +296,8 @@ public final class EdgesOfLayersTest {
     }
 
     private static void available(Runs t) {
-        t.says("Promise 16", "the source those of the portion from the taken ones on");
+        t.says("Promise 16", "How many bytes the top could answer without waiting: the source those of the portion "
+            + "from the taken ones on");
         t.run("none, one, and less and less", "available() -> 0", "feed(1, 1) -> 1", "available() -> 1",
             "feed(2, 1) -> 2", "portion() -> done", "feed(3, 1) -> 3", "available() -> 2", "read() -> 1",
             "available() -> 1", "read() -> 2", "available() -> 1", "read() -> 3", "available() -> 0");
@@ -323,7 +324,7 @@ public final class EdgesOfLayersTest {
     }
 
     private static void about(Runs t) {
-        t.says("Promise 18", "what it has to give (BUFFER)");
+        t.says("Promise 18", "Of a layer: what it has to give (BUFFER)");
         t.run("not what a mark keeps", Runs.rows(EIGHT, "push(1, 3) -> 0", "about(0) -> 0", "mark(9) -> done",
             "full(4) -> done", "about(0) -> 2", "reset() -> done", "about(0) -> 6"));
         t.says("Promise 18", "what was put back (PUSHBACK)");

@@ -17,6 +17,7 @@ public final class EdgesOfMarkTest {
         remembered(t);
         rememberedOfLines(t);
         whatCanNot(t);
+        markThatCanNot(t);
         whenNew(t);
         leftOut(t);
         reset(t);
@@ -104,7 +105,7 @@ public final class EdgesOfMarkTest {
         t.run("the top, not a BUFFER below it", Runs.rows(EIGHT, "push(1, 2) -> 0", "push(1, 2) -> 1",
             "mark(2) -> done", "full(2) -> done", "reset() -> done", "about(1) -> 2", "about(0) -> 0", "some(9) -> 2",
             "bag 1 2", "full(1) -> done", "reset() -> " + STATE));
-        t.says("Terms", "BUFFER takes the mark, with its limit, forgetting one that it has");
+        t.says("Terms", "To MARK the top: BUFFER takes the mark, with its limit, forgetting one that it has");
         t.run("a smaller limit", Runs.rows(EIGHT, "push(1, 4) -> 0", "mark(9) -> done", "read() -> 1",
             "mark(1) -> done", "read() -> 2", "reset() -> done", "full(2) -> done", "bag 2 3", "reset() -> " + STATE));
         t.run("a greater limit", Runs.rows(EIGHT, "push(1, 4) -> 0", "mark(1) -> done", "read() -> 1",
@@ -168,6 +169,18 @@ public final class EdgesOfMarkTest {
         }
     }
 
+    private static void markThatCanNot(Runs t) {
+        t.says("Promise 13", "UnsupportedOperationException when the top can not be marked");
+        t.run("the source, then a BUFFER, then a PUSHBACK", Runs.rows(EIGHT, "mark(9) -> " + CAN_NOT, "push(1, 4) -> 0",
+            "mark(9) -> done", "read() -> 1", "push(2, 1) -> 1", "mark(9) -> " + CAN_NOT));
+        for (String layer : PASSING) {
+            t.run(layer + " over the source, then over a BUFFER", Runs.rows(EIGHT, layer + " -> 0",
+                "mark(9) -> " + CAN_NOT, "push(1, 4) -> 1", layer + " -> 2", "mark(9) -> done"));
+        }
+        t.unchanged("what a mark below remembers stays", "mark(9) -> " + CAN_NOT, "feed(0x0D0A0A61, 4) -> 4",
+            "push(1, 4) -> 0", "push(5, 0) -> 1", "mark(9) -> done", "line() -> 0", "push(2, 1) -> 2");
+    }
+
     private static void canNot(Runs t, String top, String... before) {
         t.unchanged(top + ", mark of 0", "mark(0) -> " + CAN_NOT, before);
         t.unchanged(top + ", mark of 32", "mark(32) -> " + CAN_NOT, before);
@@ -224,6 +237,9 @@ public final class EdgesOfMarkTest {
         t.run("the top, not a marked BUFFER below it", Runs.rows(EIGHT, "push(1, 4) -> 0", "mark(9) -> done",
             "read() -> 1", "push(1, 2) -> 1", "mark(9) -> done", "read() -> 2", "reset() -> done", "about(1) -> 2",
             "about(0) -> 1", "read() -> 2"));
+        t.says("Terms", "To RESET likewise: BUFFER goes back");
+        t.run("to where it was marked, not to the first byte", Runs.rows(EIGHT, "push(1, 3) -> 0", "read() -> 1",
+            "mark(9) -> done", "full(4) -> done", "bag 2 3 4 5", "reset() -> done", "full(4) -> done", "bag 2 3 4 5"));
         t.says("Promise 14", "UnsupportedOperationException when the top can not be marked");
         t.run("no mark is there either", "reset() -> " + CAN_NOT, "push(2, 1) -> 0", "reset() -> " + CAN_NOT);
         t.says("Promise 14", "IllegalStateException also when the BUFFER that would go back has no mark");

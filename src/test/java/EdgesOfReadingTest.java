@@ -125,7 +125,7 @@ public final class EdgesOfReadingTest {
     }
 
     private static void skipStopped(Runs t) {
-        t.says("Promise 9", "it answers how many bytes came when there is the end, "
+        t.says("Promise 9", "but it answers how many bytes came when there is the end, "
             + "or when a request fails and some came before");
         t.run("the end behind the last", "feed(0x0102, 2) -> 2", "skip(2) -> 2");
         t.run("the end before the last", "feed(0x0102, 2) -> 2", "skip(3) -> 2", "about(-1) -> 2");
@@ -143,8 +143,8 @@ public final class EdgesOfReadingTest {
     }
 
     private static void number(Runs t) {
-        t.says("Promise 10", "answers the number that they are, the first byte being the highest; "
-            + "one of 8 bytes may be negative");
+        t.says("Promise 10", "Reads n bytes as full does and answers the number that they are, "
+            + "the first byte being the highest; one of 8 bytes may be negative");
         for (int n = 1; n <= 8; n++) {
             String bytes = " 255".repeat(n);
             t.run("the least of " + n, "feed(0, 4) -> 4", "feed(0, 4) -> 8", "number(" + n + ") -> 0",
@@ -156,6 +156,10 @@ public final class EdgesOfReadingTest {
             t.run("the last is the lowest of " + n, Runs.rows(Runs.fed(0, n - 1), "feed(1, 1) -> " + n,
                 "number(" + n + ") -> 1"));
         }
+        t.run("over portions", "feed(1, 1) -> 1", "portion() -> done", "feed(0x0203, 2) -> 3", "number(3) -> 66051",
+            "bag 1 2 3");
+        t.run("so many as are missing", "feed(0x0102, 2) -> 2", "portion() -> done", "feed(0x03040506, 4) -> 6",
+            "push(1, 2) -> 0", "number(5) -> 4328719365", "about(0) -> 0", "about(-1) -> 5");
         t.run("the greatest of 8", "feed(0x7FFFFFFF, 4) -> 4", "feed(-1, 4) -> 8", "number(8) -> 9223372036854775807");
         t.run("the least of 8", "feed(0x80000000, 4) -> 4", "feed(0, 4) -> 8", "number(8) -> -9223372036854775808");
         t.run("the highest bit of 7", "feed(0x80000000, 4) -> 4", "feed(0, 3) -> 7", "number(7) -> 36028797018963968");
@@ -213,7 +217,7 @@ public final class EdgesOfReadingTest {
     }
 
     private static void letters(Runs t) {
-        t.says("Promise 11", "a byte 0 .. 127 is a letter");
+        t.says("Promise 11", "and answers how many LETTERS they are: a byte 0 .. 127 is a letter");
         for (int b = 0; b < 256; b++) {
             text(t, b);
         }

@@ -54,7 +54,7 @@ public final class EdgesOfSourceTest {
             "breakAt(1) -> true", "some(9) -> 1", "some(9) -> " + STATE);
         t.run("it fails again and again", Runs.rows(two, "breakAt(1) -> true", "read() -> " + STATE,
             "read() -> " + STATE, "about(-1) -> 1"));
-        t.says("Terms, SOURCE", "when it is broken at the place that is taken, it fails; when all is taken, the end");
+        t.says("Terms", "SOURCE: when it is broken at the place that is taken, it fails; when all is taken, the end");
         t.run("both: broken comes first", "breakAt(0) -> true", "read() -> " + STATE);
         t.run("both, behind bytes", Runs.rows(two, "read() -> 2", "breakAt(2) -> true", "read() -> " + STATE));
         t.run("broken one behind the end", Runs.rows(two, "read() -> 2", "breakAt(3) -> true", "read() -> -1",

@@ -2,23 +2,71 @@ import java.lang.reflect.Constructor;
 import java.lang.reflect.Field;
 import java.lang.reflect.Method;
 import java.lang.reflect.Modifier;
-import java.util.ArrayList;
-import java.util.List;
 import java.util.TreeSet;
 
 /** The public face, and no other member of the class that is not private. */
 public final class FaceTest {
-    private static final String ARGUMENT = "java.lang.IllegalArgumentException";
-    private static final String STATE = "java.lang.IllegalStateException";
-    private static final String ELEMENT = "java.util.NoSuchElementException";
-    private static final String UNSUPPORTED = "java.lang.UnsupportedOperationException";
+    private final Runs t = new Runs();
+    private final TreeSet<String> found = members();
+    private final TreeSet<String> told = new TreeSet<>();
 
     public static void main(String[] args) {
-        Runs t = new Runs();
+        FaceTest test = new FaceTest();
+        test.face();
+        test.nothingElse();
+        test.t.end();
+    }
+
+    private void face() {
+        t.says("The public face", "public final class StreamTower");
         t.due("face", "the class", Modifier.toString(StreamTower.class.getModifiers()), "public final");
+        member("public static final int NONE = -1;");
         t.due("face", "NONE", "" + StreamTower.NONE, "-1");
-        t.due("face", "the members", members().toString(), expected().toString());
-        t.end();
+        member("public StreamTower();");
+        member("public int feed(int w, int n) throws IllegalArgumentException, IllegalStateException;");
+        member("public void portion();");
+        member("public boolean breakAt(int place);");
+        member("public int push(int kind, int size) throws IllegalArgumentException, IllegalStateException;");
+        member("public int read() throws IllegalStateException;");
+        member("public int some(int n) throws IllegalArgumentException, IllegalStateException;");
+        member("public void full(int n) throws IllegalArgumentException, IllegalStateException, "
+            + "java.util.NoSuchElementException;");
+        member("public int skip(int n) throws IllegalArgumentException, IllegalStateException;");
+        member("public long number(int n) throws IllegalArgumentException, IllegalStateException, "
+            + "java.util.NoSuchElementException;");
+        member("public int text() throws IllegalStateException, java.util.NoSuchElementException, "
+            + "IllegalArgumentException;");
+        member("public int line() throws IllegalStateException;");
+        member("public void mark(int limit) throws IllegalStateException, IllegalArgumentException, "
+            + "UnsupportedOperationException;");
+        member("public void reset() throws IllegalStateException, UnsupportedOperationException;");
+        member("public void unread(int b) throws IllegalStateException, IllegalArgumentException, "
+            + "UnsupportedOperationException;");
+        member("public int available();");
+        member("public void close();");
+        member("public int about(int layer);");
+        member("public int size(boolean letters);");
+        member("public int at(int k, boolean letters);");
+    }
+
+    private void nothingElse() {
+        t.says("The public face", "public final class StreamTower");
+        t.due("face", "the members", found.toString(), told.toString());
+    }
+
+    private void member(String line) {
+        t.says("The public face", line);
+        String told = asReflectionTells(line);
+        this.told.add(told);
+        t.due("face", told, "" + found.contains(told), "true");
+    }
+
+    /** Without the names of parameters, with those of packages, and without a constant's value. */
+    private static String asReflectionTells(String line) {
+        return line.replace(";", "").replaceAll(" = .*", "").replace("java.util.", "").replace(", ", ",")
+            .replaceAll("(int|boolean) \\w+([,)])", "$1$2")
+            .replaceAll("(IllegalArgument|IllegalState|UnsupportedOperation)Exception", "java.lang.$0")
+            .replace("NoSuchElementException", "java.util.NoSuchElementException");
     }
 
     private static TreeSet<String> members() {
@@ -37,31 +85,5 @@ public final class FaceTest {
             }
         }
         return found;
-    }
-
-    private static TreeSet<String> expected() {
-        List<String> all = new ArrayList<>();
-        all.add("public static final int NONE");
-        all.add("public StreamTower()");
-        all.add("public int feed(int,int) throws " + ARGUMENT + "," + STATE);
-        all.add("public void portion()");
-        all.add("public boolean breakAt(int)");
-        all.add("public int push(int,int) throws " + ARGUMENT + "," + STATE);
-        all.add("public int read() throws " + STATE);
-        all.add("public int some(int) throws " + ARGUMENT + "," + STATE);
-        all.add("public void full(int) throws " + ARGUMENT + "," + STATE + "," + ELEMENT);
-        all.add("public int skip(int) throws " + ARGUMENT + "," + STATE);
-        all.add("public long number(int) throws " + ARGUMENT + "," + STATE + "," + ELEMENT);
-        all.add("public int text() throws " + STATE + "," + ELEMENT + "," + ARGUMENT);
-        all.add("public int line() throws " + STATE);
-        all.add("public void mark(int) throws " + STATE + "," + ARGUMENT + "," + UNSUPPORTED);
-        all.add("public void reset() throws " + STATE + "," + UNSUPPORTED);
-        all.add("public void unread(int) throws " + STATE + "," + ARGUMENT + "," + UNSUPPORTED);
-        all.add("public int available()");
-        all.add("public void close()");
-        all.add("public int about(int)");
-        all.add("public int size(boolean)");
-        all.add("public int at(int,boolean)");
-        return new TreeSet<>(all);
     }
 }

@@ -17,12 +17,23 @@ final class Runs {
     };
 
     private String sentence = "";
+    private int rowsOfSentence;
     private int rows;
     private int wrong;
 
     /** The document's words that the runs from here on test: they stand before each wrong answer. */
     void says(String where, String words) {
+        endSentence();
         sentence = where + ": \"" + words + "\": ";
+        rowsOfSentence = 0;
+    }
+
+    /** Words that no row tests would look as if they were tested. */
+    private void endSentence() {
+        if (!sentence.isEmpty() && rowsOfSentence == 0) {
+            wrong++;
+            System.out.println(sentence + "no row tests these words");
+        }
     }
 
     /** A void call that throws nothing is answered "done"; "bag 1 2 3" and "letters 65" look at all of a row. */
@@ -59,6 +70,7 @@ final class Runs {
 
     void due(String title, String call, String got, String want) {
         rows++;
+        rowsOfSentence++;
         if (!got.equals(want)) {
             wrong++;
             System.out.println(sentence + title + ": " + call + " answered " + got + ", due is " + want);
@@ -108,6 +120,7 @@ final class Runs {
     }
 
     void end() {
+        endSentence();
         System.out.println(wrong == 0 ? rows + " rows are as due" : wrong + " answers are not as due");
         if (wrong != 0) {
             System.exit(1);
