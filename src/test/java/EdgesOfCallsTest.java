@@ -169,7 +169,7 @@ public final class EdgesOfCallsTest {
     }
 
     private static void notLeftOut(Runs t) {
-        t.says("Terms", "when a line ended with 13");
+        t.says("Terms", "But when a line ended with 13");
         t.run("a line ended with 10", "feed(0x0A0A, 2) -> 2", "line() -> 0", "read() -> 10");
         t.run("a line ended with the end", "feed(0x61, 1) -> 1", "line() -> 1", "feed(10, 1) -> 2", "read() -> 10");
         t.run("a line that failed", "feed(0x61, 1) -> 1", "breakAt(1) -> true", "line() -> " + STATE,
@@ -235,6 +235,11 @@ public final class EdgesOfCallsTest {
         t.run("number", "feed(0x0708, 2) -> 2", "number(2) -> 1800", "bag 7 8");
         t.run("text", "feed(0x000107, 3) -> 3", "text() -> 1", "bag 0 1 7");
         t.run("line", "feed(0x0708, 2) -> 2", "line() -> 2", "bag 7 8");
+        t.run("by several requests", "feed(7, 1) -> 1", "portion() -> done", "feed(0x0809, 2) -> 3", "full(3) -> done",
+            "bag 7 8 9");
+        for (int n = 3; n <= 60; n++) {
+            t.run("all of " + n, Runs.fed(7, n, "full(" + n + ") -> done", "bag" + " 7".repeat(n)));
+        }
     }
 
     private static void emptied(Runs t) {

@@ -262,6 +262,11 @@ public final class EdgesOfLayersTest {
         t.says("Promise 15", "Puts a byte back into the top.");
         t.run("it is read next", "feed(0x0102, 2) -> 2", "push(2, 2) -> 0", "read() -> 1", "unread(7) -> done",
             "read() -> 7", "read() -> 2");
+        t.run("and one before it then", "feed(1, 1) -> 1", "push(2, 2) -> 0", "unread(7) -> done", "unread(8) -> done",
+            "read() -> 8", "read() -> 7", "read() -> 1");
+        for (int b = 0; b <= 255; b++) {
+            t.run("any byte", "push(2, 1) -> 0", "unread(" + b + ") -> done", "read() -> " + b);
+        }
         t.says("Terms", "BYTES are 0 .. 255.");
         t.run("0 and 255", "push(2, 2) -> 0", "unread(0) -> done", "unread(255) -> done", "read() -> 255",
             "read() -> 0", "read() -> -1");
@@ -335,6 +340,8 @@ public final class EdgesOfLayersTest {
         t.run("0 left, none answered, none counted", "feed(10, 1) -> 1", "push(5, 0) -> 0", "push(4, 0) -> 1",
             "push(3, 1) -> 2", "about(0) -> 0", "about(1) -> 0", "about(2) -> 1", "read() -> 10", "about(0) -> 1",
             "about(1) -> 1", "about(2) -> 0", "read() -> -1", "about(0) -> 1", "about(1) -> 1", "about(2) -> 0");
+        t.run("a 13 is counted when it comes, its 10 not again", "feed(0x0D0A0D, 3) -> 3", "push(5, 0) -> 0",
+            "read() -> 13", "about(0) -> 1", "read() -> 10", "about(0) -> 1", "read() -> 13", "about(0) -> 2");
         t.says("Promise 18", "Of the source (layer -1) how many are taken.");
         t.run("0 and 120", Runs.fed(7, 120, "about(-1) -> 0", "skip(120) -> 120", "about(-1) -> 120"));
         t.says("Promise 18", "NONE when there is no such layer.");

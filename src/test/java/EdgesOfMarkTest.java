@@ -240,6 +240,8 @@ public final class EdgesOfMarkTest {
         t.says("Terms", "To RESET likewise: BUFFER goes back");
         t.run("to where it was marked, not to the first byte", Runs.rows(EIGHT, "push(1, 3) -> 0", "read() -> 1",
             "mark(9) -> done", "full(4) -> done", "bag 2 3 4 5", "reset() -> done", "full(4) -> done", "bag 2 3 4 5"));
+        t.run("not to bytes that it still has from before", Runs.rows(EIGHT, "push(1, 4) -> 0", "read() -> 1",
+            "mark(9) -> done", "read() -> 2", "reset() -> done", "about(0) -> 3", "some(9) -> 3", "bag 2 3 4"));
         t.says("Promise 14", "UnsupportedOperationException when the top can not be marked");
         t.run("no mark is there either", "reset() -> " + CAN_NOT, "push(2, 1) -> 0", "reset() -> " + CAN_NOT);
         t.says("Promise 14", "IllegalStateException also when the BUFFER that would go back has no mark");

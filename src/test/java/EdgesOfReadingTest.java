@@ -218,6 +218,8 @@ public final class EdgesOfReadingTest {
 
     private static void letters(Runs t) {
         t.says("Promise 11", "and answers how many LETTERS they are: a byte 0 .. 127 is a letter");
+        t.run("three letters of six bytes", "feed(0x000641C3, 4) -> 4", "feed(0xA4E282AC, 4) -> 8", "text() -> 3",
+            "letters 65 228 8364");
         for (int b = 0; b < 256; b++) {
             text(t, b);
         }

@@ -56,6 +56,12 @@ public final class PlainSentencesTest {
         for (int n = 2; n <= 5; n++) {
             String size = "push(1, " + n + ") -> 0";
             String more = "push(1, " + (n + 1) + ") -> 0";
+            String less = "push(1, " + (n - 1) + ") -> 0";
+            t.run("some of more than a size", Runs.rows(EIGHT, less, "some(" + n + ") -> " + n, "about(-1) -> " + n));
+            t.run("full of more than a size", Runs.rows(EIGHT, less, "full(" + n + ") -> done", "about(0) -> 0",
+                "about(-1) -> " + n));
+            t.run("skip of more than a size", Runs.rows(EIGHT, less, "skip(" + n + ") -> " + n, "about(0) -> 0",
+                "about(-1) -> " + n));
             t.run("some of " + n, Runs.rows(EIGHT, size, "some(" + n + ") -> " + n, "about(0) -> 0"));
             t.run("some of less than a size", Runs.rows(EIGHT, more, "some(" + n + ") -> " + n, "about(0) -> 1"));
             t.run("full of " + n, Runs.rows(EIGHT, size, "full(" + n + ") -> done", "about(0) -> 0"));
